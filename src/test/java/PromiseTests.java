@@ -887,10 +887,10 @@ public final class PromiseTests {
         SerialPort x = port(3);
         x.write(2, 0xC1);
         x.write(1, 15);
-        x.write(4, 31);
         x.write(7, 77);
         x.inputs(15);
         bring(x, 17);
+        x.write(4, 31);
         for (int i = 0; i < 5; i++) {
             x.write(0, i);
         }
