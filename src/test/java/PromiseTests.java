@@ -533,7 +533,6 @@ public final class PromiseTests {
         for (int b = 0; b < bits.length() * 16; b++) {
             x.clock(1);
             due("3 is " + control + ", BEAT " + b, x.count(4), bits.charAt(b / 16) - '0');
-            due("3 is " + control + ", BEAT " + b + " sends", x.count(7), 1);
         }
         for (int b = 1; b <= stopBeats; b++) {
             x.clock(1);
