@@ -33,6 +33,7 @@ public final class PromiseTests {
         resets();
         counts();
         runs();
+        readmeExample();
         System.out.println(wrong == 0 ? "all answers are as due" : wrong + " answers are not as due");
         if (wrong != 0) {
             System.exit(1);
@@ -970,5 +971,22 @@ public final class PromiseTests {
         y.clock(60000);
         y.clock(60000);
         due("a long one: run(0, 1)", y.run(0, 1), 120000);
+    }
+
+    /** The calls that README.md shows, with the answers that it writes beside them. */
+    private static void readmeExample() {
+        part = "README";
+        SerialPort x = new SerialPort();
+        x.write(3, 128);
+        x.write(0, 1);
+        x.write(3, 3);
+        x.write(0, 65);
+        due("clock(160)", x.clock(160), 160);
+        due("run(0, 1)", x.run(0, 1), 16);
+        due("frame(66, -1)", x.frame(66, -1), 10);
+        due("clock(160)", x.clock(160), 160);
+        due("read(5)", x.read(5), 97);
+        due("read(0)", x.read(0), 66);
+        due("read(0)", x.read(0), 0);
     }
 }
